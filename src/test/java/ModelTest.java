@@ -4,7 +4,7 @@ import java.util.function.IntSupplier;
 final class ModelTest {
     private static final int RUNS = 120;
     private static final int CALLS = 300;
-    private static final int[] FAR = {Integer.MIN_VALUE, Integer.MIN_VALUE + 1, -1000, -1, 60, 1000, 65536, 9999,
+    private static final int[] FAR = {Integer.MIN_VALUE, Integer.MIN_VALUE + 1, -1000, -1, 1000, 65536, 9999,
         Integer.MAX_VALUE - 1, Integer.MAX_VALUE};
 
     private final MarketSockets x = new MarketSockets();
@@ -50,7 +50,7 @@ final class ModelTest {
         MarketSockets x = test.x;
         Check.isTrue("there are stalls", x.count(1) > 0 && x.count(1) < 10);
         for (int far : FAR) {
-            Check.refusesArgument("stall", x, () -> x.stall(far < 0 ? far : far + 501 < 0 ? far : far + 501, 0, 0, 1));
+            Check.refusesArgument("stall", x, () -> x.stall(far, 0, 0, 1));
             Check.refusesArgument("stall", x, () -> x.stall(1, far, 0, 1));
             Check.refusesArgument("stall", x, () -> x.stall(1, 0, far, 1));
             Check.refusesArgument("stall", x, () -> x.stall(1, 0, 0, far));

@@ -68,6 +68,21 @@ final class TextTest {
         Check.same("it is kept", 60, x.clearBuffer());
     }
 
+    static void promise13DoesNotReadWhatWasCleared() {
+        MarketSockets x = new MarketSockets();
+        Check.type(x, "h12;h1");
+        x.clearBuffer();
+        Check.type(x, "h");
+        Check.same("h alone", 1, x.firstError());
+        Check.refusesArgument("h alone", x, x::open);
+        Check.type(x, "1");
+        Check.same("h1", 2, x.firstError());
+        Check.same("one order", 1, x.open());
+        Check.same("hour", 1, x.count(0));
+        Check.type(x, "h1;h1;h1;h1;h1;h1;h1;h1;h1;h1;h1;h1;h1;h1;h1;h1;h1;h1;h1;p1=");
+        Check.same("a full buffer that ends ahead of a number", 60, x.firstError());
+    }
+
     static void promise14DoesTheOrders() {
         MarketSockets x = new MarketSockets();
         Check.same("open", 4, Check.open(x, "s120@20-3*7;s9@0-23*1;p0=11;h3"));
