@@ -10,9 +10,11 @@ import java.util.regex.Pattern;
 
 /** Runs each static method without parameters of the test classes; exit code 1 if one fails. */
 public final class AllTests {
-    private static final Class<?>[] CLASSES = {LookTest.class, StallTest.class, BreakerTest.class, TextTest.class,
-        SnapshotTest.class, WouldBeTest.class, ModelTest.class, FaceTest.class, LanguageTest.class};
-    private static final Pattern PROMISE = Pattern.compile("promise(\\d+).*");
+    static final Class<?>[] CLASSES = {LookTest.class, StallTest.class, BreakerTest.class, TextTest.class,
+        SnapshotTest.class, WouldBeTest.class, ModelTest.class, EdgeHourTest.class, EdgeStallTest.class,
+        EdgeBreakerTest.class, EdgeTextTest.class, EdgeSnapshotTest.class, EdgeLookTest.class,
+        EdgeWouldBeTest.class, DocumentTest.class, FaceTest.class, LanguageTest.class};
+    static final Pattern PROMISE = Pattern.compile("promise(\\d+).*");
 
     private static int passed = 0;
     private static int failed = 0;
@@ -52,10 +54,20 @@ public final class AllTests {
             passed++;
         } catch (InvocationTargetException e) {
             failed++;
-            System.out.println(name + ": " + e.getCause());
+            System.out.println(name + lineOf(tests, e.getCause()) + ": " + e.getCause());
         } catch (IllegalAccessException e) {
             failed++;
             System.out.println(name + " can't be run: " + e);
         }
+    }
+
+    /** The line of the test that failed, behind a colon. */
+    private static String lineOf(Class<?> tests, Throwable failure) {
+        for (StackTraceElement call : failure.getStackTrace()) {
+            if (call.getClassName().equals(tests.getName())) {
+                return ":" + call.getLineNumber();
+            }
+        }
+        return "";
     }
 }
