@@ -84,6 +84,13 @@ final class Edge {
         }
     }
 
+    /** A market without stalls at this hour. */
+    static MarketSockets atHour(int hour) {
+        MarketSockets x = new MarketSockets();
+        passTo(x, hour);
+        return x;
+    }
+
     /** The reserve carries 200, and more in 13 hours of the day, two or three of them in a row. */
     static void fillReserve(MarketSockets x, int more) {
         int[][] hours = {{0, 23}, {0, 1}, {4, 5}, {8, 9}, {12, 13}, {16, 17}, {20, 22}};
@@ -142,7 +149,7 @@ final class Edge {
         sameWhole("undone", untouched, x);
     }
 
-    /** The call answers this and changes nothing. */
+    /** The call changes nothing. */
     static void looks(Supplier<MarketSockets> made, Consumer<MarketSockets> call) {
         MarketSockets x = made.get();
         call.accept(x);

@@ -49,7 +49,8 @@ final class EdgeBreakerTest {
 
     @Says("Throws `IllegalArgumentException` if an argument is out of range")
     static void promise6RefusesAnyArgumentOutOfRange() {
-        int[][] wrong = {{-1, 200}, {4, 200}, {0, 9}, {0, 1000}, {3, 9}, {3, 1000}, {-1, 9}, {4, 1000}, {0, 0}, {0, -200}};
+        int[][] wrong = {{-1, 200}, {4, 200}, {0, 9}, {0, 1000}, {3, 9}, {3, 1000}, {-1, 9}, {4, 1000}, {0, 0},
+            {0, -200}};
         for (int[] a : wrong) {
             Edge.refuses("bound " + a[0] + " " + a[1], Edge.ARGUMENT, Edge::busy, x -> x.bound(a[0], a[1]));
         }
@@ -250,22 +251,22 @@ final class EdgeBreakerTest {
     static void promise9RefusesHoursOutOfRange() {
         for (int hours : new int[] {0, -1, 49, 9999, 10000}) {
             Edge.refuses(hours + " hours", Edge.ARGUMENT, Edge::busy, x -> x.pass(hours));
-            Edge.refuses(hours + " hours at 9999", Edge.ARGUMENT, () -> atHour(9999), x -> x.pass(hours));
+            Edge.refuses(hours + " hours at 9999", Edge.ARGUMENT, () -> Edge.atHour(9999), x -> x.pass(hours));
         }
     }
 
     @Says("Throws `IllegalStateException` if the hour would be above 9999")
     static void promise9RefusesAnHourAbove9999() {
-        MarketSockets x = atHour(9951);
+        MarketSockets x = Edge.atHour(9951);
         Check.same("48 up to 9999", 0, x.pass(48));
         Check.same("hour", 9999, x.count(0));
-        Edge.refuses("48 up to 10000", Edge.STATE, () -> atHour(9952), y -> y.pass(48));
-        MarketSockets last = atHour(9998);
+        Edge.refuses("48 up to 10000", Edge.STATE, () -> Edge.atHour(9952), y -> y.pass(48));
+        MarketSockets last = Edge.atHour(9998);
         last.pass(1);
         Check.same("hour", 9999, last.count(0));
-        Edge.refuses("2 up to 10000", Edge.STATE, () -> atHour(9998), y -> y.pass(2));
-        Edge.refuses("1 up to 10000", Edge.STATE, () -> atHour(9999), y -> y.pass(1));
-        Edge.refuses("48 from 9999 on", Edge.STATE, () -> atHour(9999), y -> y.pass(48));
+        Edge.refuses("2 up to 10000", Edge.STATE, () -> Edge.atHour(9998), y -> y.pass(2));
+        Edge.refuses("1 up to 10000", Edge.STATE, () -> Edge.atHour(9999), y -> y.pass(1));
+        Edge.refuses("48 from 9999 on", Edge.STATE, () -> Edge.atHour(9999), y -> y.pass(48));
     }
 
     // ---- promise 10
@@ -337,12 +338,5 @@ final class EdgeBreakerTest {
         for (int[] a : wrong) {
             Edge.refuses("set " + a[0] + " " + a[1], Edge.ARGUMENT, Edge::busy, x -> x.set(a[0], a[1]));
         }
-    }
-
-    /** A market without stalls at this hour. */
-    private static MarketSockets atHour(int hour) {
-        MarketSockets x = new MarketSockets();
-        Edge.passTo(x, hour);
-        return x;
     }
 }

@@ -1,5 +1,11 @@
 /** The section "Terms" up to the settings: a test of each sentence that names an edge. */
 final class EdgeHourTest {
+    private static final String STALL = "A stall has a load, 1 to 500, an hour from which on and one up to which it"
+            + " draws it (0 to 23 each; if the latter is less, over midnight), a rank, 1 to 9, and a socket or none,"
+            + " at first none; at most one stall is at a socket.";
+    private static final String SETTINGS = "0: how much breakers become cooler, 1 to 9, at first 2; 1: 1 if stalls"
+            + " are shed by rank, otherwise 0, at first 0; 2: the fee for 10 of the meter, 1 to 99, at first 3.";
+
     @Says("All numbers are integers, but for a share; divisions are rounded down.")
     static void termsDivisionsAreRoundedDown() {
         int[] excesses = {1, 9, 10, 19, 20, 99};
@@ -18,8 +24,8 @@ final class EdgeHourTest {
         }
     }
 
-    @Says("There are 4 breakers, numbered from 0, each with a bound, 10 to 999, at first 200; it is on or tripped, at"
-            + " first on; its heat is at first 0.")
+    @Says("There are 4 breakers, numbered from 0, each with a bound, 10 to 999, at first 200; it is on or tripped,"
+            + " at first on; its heat is at first 0.")
     static void termsBreakersAreOnAtFirst() {
         MarketSockets x = new MarketSockets();
         for (int breaker = 0; breaker < 4; breaker++) {
@@ -69,9 +75,7 @@ final class EdgeHourTest {
         Edge.refuses("an 11th", Edge.STATE, Edge::full, y -> y.stall(1, 0, 0, 1));
     }
 
-    @Says("A stall has a load, 1 to 500, an hour from which on and one up to which it draws it (0 to 23 each; if the"
-            + " latter is less, over midnight), a rank, 1 to 9, and a socket or none, at first none; at most one stall is"
-            + " at a socket.")
+    @Says(STALL)
     static void termsHoursGoOverMidnight() {
         for (int from = 0; from < 24; from++) {
             for (int to = 0; to < 24; to++) {
@@ -91,9 +95,7 @@ final class EdgeHourTest {
         }
     }
 
-    @Says("A stall has a load, 1 to 500, an hour from which on and one up to which it draws it (0 to 23 each; if the"
-            + " latter is less, over midnight), a rank, 1 to 9, and a socket or none, at first none; at most one stall is"
-            + " at a socket.")
+    @Says(STALL)
     static void termsAtMostOneStallIsAtASocket() {
         MarketSockets x = new MarketSockets();
         x.stall(1, 0, 0, 1);
@@ -136,8 +138,8 @@ final class EdgeHourTest {
         Check.same("dark hours", 0, x.count(8));
     }
 
-    @Says("It draws it if, besides, it is at a socket, is not shed, and the breaker that this socket is on then has not"
-            + " tripped.")
+    @Says("It draws it if, besides, it is at a socket, is not shed, and the breaker that this socket is on then has"
+            + " not tripped.")
     static void termsItDrawsAtASocketNotShedAndOn() {
         MarketSockets x = Edge.tripped();
         Check.same("tripped", 0, x.count(3));
@@ -177,10 +179,10 @@ final class EdgeHourTest {
 
     // ---- 1. stalls are shed by rank
 
-    private static final String SHEDDING = "For each breaker that is on, by ascending numbers: as long as it carries more"
-            + " than its bound, and setting 1 is 1, the stall on it with the greatest rank that draws something, of"
-            + " several the one with the greatest load, of several the lowest one, is shed (until shed() lets it draw"
-            + " again).";
+    private static final String SHEDDING = "For each breaker that is on, by ascending numbers: as long as it carries"
+            + " more than its bound, and setting 1 is 1, the stall on it with the greatest rank that draws something,"
+            + " of several the one with the greatest load, of several the lowest one, is shed (until shed() lets it"
+            + " draw again).";
 
     @Says(SHEDDING)
     static void termsItShedsAsLongAsItCarriesMore() {
@@ -217,6 +219,24 @@ final class EdgeHourTest {
             Check.same("shed by rank", k + 1, x.count(10));
         }
         Check.same("no one draws", 0, x.count(3));
+    }
+
+    @Says(SHEDDING)
+    static void termsItShedsAmongTenStalls() {
+        MarketSockets x = EdgeStallTest.allPlugged();
+        for (int socket = 0; socket < 9; socket++) {
+            x.over(socket);
+        }
+        x.set(1, 1);
+        x.bound(3, 10);
+        x.pass(1);
+        for (int stall = 0; stall < 10; stall++) {
+            Check.same("all but the one of 10", stall == 0 ? 0 : 1, x.stallOf(stall, 5));
+        }
+        x.shed(9);
+        x.bound(3, 19);
+        x.pass(1);
+        Check.same("the last of ten goes first", 1, x.stallOf(9, 5));
     }
 
     @Says(SHEDDING)
@@ -273,9 +293,9 @@ final class EdgeHourTest {
 
     // ---- 2. to 5.
 
-    private static final String HEAT = "Each breaker that is on and carries more than its bound becomes hotter by what it"
-            + " carries more, divided by 10, and 1; each other one, a tripped one, too, becomes cooler by setting 0 (0 at"
-            + " least).";
+    private static final String HEAT = "Each breaker that is on and carries more than its bound becomes hotter by"
+            + " what it carries more, divided by 10, and 1; each other one, a tripped one, too, becomes cooler by"
+            + " setting 0 (0 at least).";
 
     @Says(HEAT)
     static void termsItBecomesHotterByWhatItCarriesMore() {
@@ -322,8 +342,8 @@ final class EdgeHourTest {
         Check.same("trips of one that has tripped, and is hot", 0, Edge.tripped().pass(1));
     }
 
-    @Says("Each stall that draws its load (with the breakers as they are ahead of 3) has its meter run on by it; one that"
-            + " wants its load and does not draw it has a dark hour.")
+    @Says("Each stall that draws its load (with the breakers as they are ahead of 3) has its meter run on by it; one"
+            + " that wants its load and does not draw it has a dark hour.")
     static void termsMetersRunInTheHourOfTheTrip() {
         MarketSockets x = Edge.on(0, 500, 40);
         x.stall(7, 0, 23, 1);
@@ -350,8 +370,8 @@ final class EdgeHourTest {
         }
     }
 
-    @Says("The reason of a stall is the first one of these that is so, for the hour of now: 1: it does not want its load;"
-            + " 2: it is at no socket; 3: its breaker has tripped; 4: it is shed; 0: it draws its load.")
+    @Says("The reason of a stall is the first one of these that is so, for the hour of now: 1: it does not want its"
+            + " load; 2: it is at no socket; 3: its breaker has tripped; 4: it is shed; 0: it draws its load.")
     static void termsTheReasonIsTheFirstThatIsSo() {
         for (int k = 0; k < 16; k++) {
             boolean wants = (k & 1) != 0;
@@ -374,8 +394,7 @@ final class EdgeHourTest {
         }
     }
 
-    @Says("0: how much breakers become cooler, 1 to 9, at first 2; 1: 1 if stalls are shed by rank, otherwise 0, at first"
-            + " 0; 2: the fee for 10 of the meter, 1 to 99, at first 3.")
+    @Says(SETTINGS)
     static void termsSettingsHaveTheirRanges() {
         int[] first = {2, 0, 3};
         int[] least = {1, 0, 1};
@@ -393,8 +412,7 @@ final class EdgeHourTest {
         }
     }
 
-    @Says("0: how much breakers become cooler, 1 to 9, at first 2; 1: 1 if stalls are shed by rank, otherwise 0, at first"
-            + " 0; 2: the fee for 10 of the meter, 1 to 99, at first 3.")
+    @Says(SETTINGS)
     static void termsSettingsCountFromTheNextHourOn() {
         MarketSockets x = Edge.on(0, 10);
         x.pass(1);

@@ -1,9 +1,21 @@
 /** Promises 18 to 22: a test of each sentence that names an edge. */
 final class EdgeLookTest {
+    private static final String STALL_WHAT = "`what`: 0: its load; 1: the hour from which on, 2: up to which it"
+            + " wants it; 3: its rank; 4: its socket, NONE without one; 5: 1 if it is shed, otherwise 0; 6: its"
+            + " meter; 7: its dark hours so far; 8: its reason; 9: its fee: its meter times setting 2, divided by 10";
+    private static final String BREAKER_WHAT = "`what`: 0: its bound; 1: 1 if it is on, 0 if it has tripped; 2: its"
+            + " heat; 3: what it carries in the hour of now; 4: what it would carry if it was on, and all stalls at"
+            + " its sockets that are not shed wanted their loads; 5: how often it tripped so far; 6: what went"
+            + " through it so far";
+    private static final String COUNT_WHAT = "`what`: 0: the hour; 1: stalls; 2: those at sockets; 3: those that"
+            + " draw in the hour of now; 4: breakers that are on; 5: all meters together; 6: the same, told by what"
+            + " went through breakers; 7: trips so far; 8: dark hours of stalls so far; 9: all fees together (each"
+            + " one rounded by itself); 10: stalls that were shed by rank so far; 11: saved states";
+
     private static final int HOURS = 9999;
 
-    @Says("Ahead of the calls `stallOf`, `breaker`, `socket`, `count`, `setting` the interface says: ---- looks; nothing"
-            + " is changed.")
+    @Says("Ahead of the calls `stallOf`, `breaker`, `socket`, `count`, `setting` the interface says: ---- looks;"
+            + " nothing is changed.")
     static void termsLooksChangeNothing() {
         for (int k = 0; k < 12; k++) {
             int which = k;
@@ -24,9 +36,7 @@ final class EdgeLookTest {
         Edge.range(Edge.INDEX, Edge::full, 0, 9, (x, stall) -> Check.same("load", 10 + stall, x.stallOf(stall, 0)));
     }
 
-    @Says({"`what`: 0: its load; 1: the hour from which on, 2: up to which it wants it; 3: its rank; 4: its socket, NONE"
-            + " without one; 5: 1 if it is shed, otherwise 0; 6: its meter; 7: its dark hours so far; 8: its reason; 9: its"
-            + " fee: its meter times setting 2, divided by 10", "Returns a property of a stall.", "Returns the property."})
+    @Says({STALL_WHAT, "Returns a property of a stall.", "Returns the property."})
     static void promise18WhatIs0To9() {
         Edge.answers(Edge.ARGUMENT, () -> {
             MarketSockets x = new MarketSockets();
@@ -41,9 +51,7 @@ final class EdgeLookTest {
         }, (x, what) -> x.stallOf(0, what), 17, 23, 0, 9, 11, 0, 34, 5, 1, 10);
     }
 
-    @Says("`what`: 0: its load; 1: the hour from which on, 2: up to which it wants it; 3: its rank; 4: its socket, NONE"
-            + " without one; 5: 1 if it is shed, otherwise 0; 6: its meter; 7: its dark hours so far; 8: its reason; 9: its"
-            + " fee: its meter times setting 2, divided by 10")
+    @Says(STALL_WHAT)
     static void promise18PropertiesAtTheirEdges() {
         MarketSockets x = new MarketSockets();
         x.stall(500, 0, 23, 9);
@@ -101,10 +109,7 @@ final class EdgeLookTest {
         }, (x, breaker) -> x.breaker(breaker, 0), 300, 301, 302, 303);
     }
 
-    @Says({"`what`: 0: its bound; 1: 1 if it is on, 0 if it has tripped; 2: its heat; 3: what it carries in the hour of"
-            + " now; 4: what it would carry if it was on, and all stalls at its sockets that are not shed wanted their"
-            + " loads; 5: how often it tripped so far; 6: what went through it so far", "Returns a property of a breaker.",
-        "Returns the property."})
+    @Says({BREAKER_WHAT, "Returns a property of a breaker.", "Returns the property."})
     static void promise19WhatIs0To6() {
         Edge.answers(Edge.ARGUMENT, () -> {
             MarketSockets x = Edge.on(2, 155);
@@ -121,9 +126,7 @@ final class EdgeLookTest {
         }, (x, what) -> x.breaker(2, what), 150, 1, 1, 155, 162, 1, 465);
     }
 
-    @Says("`what`: 0: its bound; 1: 1 if it is on, 0 if it has tripped; 2: its heat; 3: what it carries in the hour of"
-            + " now; 4: what it would carry if it was on, and all stalls at its sockets that are not shed wanted their"
-            + " loads; 5: how often it tripped so far; 6: what went through it so far")
+    @Says(BREAKER_WHAT)
     static void promise19PropertiesAtTheirEdges() {
         MarketSockets x = Edge.tripped();
         x.stall(20, 23, 23, 1);
@@ -187,10 +190,7 @@ final class EdgeLookTest {
 
     // ---- promise 21
 
-    @Says({"`what`: 0: the hour; 1: stalls; 2: those at sockets; 3: those that draw in the hour of now; 4: breakers that are"
-            + " on; 5: all meters together; 6: the same, told by what went through breakers; 7: trips so far; 8: dark hours"
-            + " of stalls so far; 9: all fees together (each one rounded by itself); 10: stalls that were shed by rank so"
-            + " far; 11: saved states", "Returns a number.", "Returns the number."})
+    @Says({COUNT_WHAT, "Returns a number.", "Returns the number."})
     static void promise21WhatIs0To11() {
         Edge.answers(Edge.ARGUMENT, () -> {
             MarketSockets x = new MarketSockets();
@@ -203,10 +203,7 @@ final class EdgeLookTest {
         }, MarketSockets::count, 4, 5, 4, 2, 3, 511 + 7 * 3, 511 + 7 * 3, 1, 3 + 4 + 1, 153 + 6, 1, 5);
     }
 
-    @Says("`what`: 0: the hour; 1: stalls; 2: those at sockets; 3: those that draw in the hour of now; 4: breakers that are"
-            + " on; 5: all meters together; 6: the same, told by what went through breakers; 7: trips so far; 8: dark hours"
-            + " of stalls so far; 9: all fees together (each one rounded by itself); 10: stalls that were shed by rank so"
-            + " far; 11: saved states")
+    @Says(COUNT_WHAT)
     static void promise21FeesAreRoundedByThemselves() {
         MarketSockets x = Edge.on(0, 3, 3, 3);
         x.pass(1);
@@ -215,10 +212,7 @@ final class EdgeLookTest {
         Check.same("three times 18 tenths", 3, x.count(9));
     }
 
-    @Says("`what`: 0: the hour; 1: stalls; 2: those at sockets; 3: those that draw in the hour of now; 4: breakers that are"
-            + " on; 5: all meters together; 6: the same, told by what went through breakers; 7: trips so far; 8: dark hours"
-            + " of stalls so far; 9: all fees together (each one rounded by itself); 10: stalls that were shed by rank so"
-            + " far; 11: saved states")
+    @Says(COUNT_WHAT)
     static void promise21NumbersAtTheirEdges() {
         MarketSockets none = new MarketSockets();
         for (int what = 0; what < 12; what++) {

@@ -5,13 +5,17 @@ import java.util.function.Supplier;
 
 /** Snapshots, undo, exceptions, and promises 15 to 17: a test of each sentence that names an edge. */
 final class EdgeSnapshotTest {
-    private static final String SAVES = "Each method that is marked \"undoable\" and does not throw an exception saves the"
-            + " state from before it (also if it changes nothing): all, also what is counted so far, but the buffer, the"
-            + " slots and the saved states.";
+    private static final String SLOTS = "There are two slots; a snapshot is all but the buffer, the slots and the"
+            + " saved states.";
+    private static final String AT_MOST_6 = "At most 6 states are saved; the oldest one is dropped first.";
+
+    private static final String SAVES = "Each method that is marked \"undoable\" and does not throw an exception"
+            + " saves the state from before it (also if it changes nothing): all, also what is counted so far, but"
+            + " the buffer, the slots and the saved states.";
 
     // ---- the section "Snapshots, undo"
 
-    @Says("There are two slots; a snapshot is all but the buffer, the slots and the saved states.")
+    @Says(SLOTS)
     static void termsASnapshotIsAllButTheBufferTheSlotsAndTheSavedStates() {
         MarketSockets x = Edge.busyWithRoom();
         x.keep(0);
@@ -29,6 +33,29 @@ final class EdgeSnapshotTest {
         Edge.sameLooks("all else is", untouched, x);
         int hour = x.count(0);
         Check.isTrue("slots are no part of it", x.goBack(1) != hour);
+    }
+
+    @Says(SLOTS)
+    static void termsASnapshotHasItsOwnStalls() {
+        MarketSockets x = Edge.tripped();
+        x.keep(0);
+        x.undo();
+        x.undo();
+        Check.open(x, "s1@2-3*4;s5@6-7*8;p0=11;p1=10;h9");
+        x.keep(1);
+        x.goBack(0);
+        MarketSockets y = Edge.tripped();
+        for (int what = 0; what < 10; what++) {
+            for (int stall = 0; stall < 4; stall++) {
+                Check.same("property " + what, y.stallOf(stall, what), x.stallOf(stall, what));
+            }
+        }
+        x.goBack(1);
+        int[] first = {1, 2, 3, 4, 11, 0, 2, 0, 1, 0};
+        for (int what = 0; what < 10; what++) {
+            Check.same("property " + what + " of the other slot", first[what], x.stallOf(0, what));
+        }
+        Check.same("stalls", 2, x.count(1));
     }
 
     @Says(SAVES)
@@ -99,7 +126,7 @@ final class EdgeSnapshotTest {
         Edge.sameLooks("all else is", y, x);
     }
 
-    @Says("At most 6 states are saved; the oldest one is dropped first.")
+    @Says(AT_MOST_6)
     static void termsTheOldestOfSevenIsDropped() {
         MarketSockets x = new MarketSockets();
         for (int call = 1; call <= 20; call++) {
@@ -113,7 +140,7 @@ final class EdgeSnapshotTest {
         Edge.refuses("a seventh one", Edge.STATE, () -> afterUndos(20, 6), MarketSockets::undo);
     }
 
-    @Says("At most 6 states are saved; the oldest one is dropped first.")
+    @Says(AT_MOST_6)
     static void termsCallsAndUndosMayTakeTurns() {
         MarketSockets x = new MarketSockets();
         Deque<Integer> saved = new ArrayDeque<>();

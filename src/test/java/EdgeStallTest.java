@@ -31,6 +31,21 @@ final class EdgeStallTest {
         Check.same("load of the one before it", 30, x.stallOf(stalls - 1, 0));
     }
 
+    @Says("Adds a stall.")
+    static void promise2BeginsAnewAfterUndo() {
+        MarketSockets x = new MarketSockets();
+        Check.open(x, "s9@0-23*9;h2;p0=4;h3");
+        x.shed(0);
+        Check.same("meter of the one before", 27, x.stallOf(0, 6));
+        x.undo();
+        x.undo();
+        x.stall(77, 5, 4, 8);
+        int[] due = {77, 5, 4, 8, -1, 0, 0, 0, 2, 0};
+        for (int what = 0; what < 10; what++) {
+            Check.same("its property " + what, due[what], x.stallOf(0, what));
+        }
+    }
+
     @Says("Undoable.")
     static void promise2IsUndoable() {
         Edge.undoable(MarketSockets::new, x -> x.stall(500, 23, 0, 9));

@@ -4,6 +4,15 @@ import java.util.function.Supplier;
 
 /** The input text and promises 11 to 14: a test of each sentence that names an edge. */
 final class EdgeTextTest {
+    private static final String PLAN = "A plan as a text is one or more orders with \";\" between them: \"s\", a"
+            + " load, 1 to 500, \"@\", two hours with \"-\" between them, 0 to 23 each, \"*\", and a rank, 1 to 9 (a"
+            + " stall comes); \"p\", the digit of a stall, \"=\", and a socket, 0 to 11 (it is plugged in); or \"h\""
+            + " and hours, 1 to 48 (they go by).";
+    private static final String READING = "The buffer is read from left to right; a character is a syntax error if"
+            + " no plan as a text, of any length, begins with the characters before it and this character.";
+    private static final String ORDERS = "Does the orders in the buffer as stall(), plug() and pass() do, one after"
+            + " the other, up to the first one whose method would throw an exception, and clears the buffer.";
+
     private static final String FIVE_STALLS = "s1@0-0*1;s1@0-0*1;s1@0-0*1;s1@0-0*1;s1@0-0*1";
 
     // ---- the section "Input text"
@@ -18,9 +27,7 @@ final class EdgeTextTest {
         Check.same("hour", 19 + 48, x.count(0));
     }
 
-    @Says("A plan as a text is one or more orders with \";\" between them: \"s\", a load, 1 to 500, \"@\", two hours with"
-            + " \"-\" between them, 0 to 23 each, \"*\", and a rank, 1 to 9 (a stall comes); \"p\", the digit of a stall,"
-            + " \"=\", and a socket, 0 to 11 (it is plugged in); or \"h\" and hours, 1 to 48 (they go by).")
+    @Says(PLAN)
     static void termsOrdersHaveTheirRanges() {
         numbers("s", "@5-6*7", 1, 500);
         numbers("s70@", "-6*7", 0, 23);
@@ -41,9 +48,7 @@ final class EdgeTextTest {
         errorAt("S1@2-3*4", 0, false);
     }
 
-    @Says("A plan as a text is one or more orders with \";\" between them: \"s\", a load, 1 to 500, \"@\", two hours with"
-            + " \"-\" between them, 0 to 23 each, \"*\", and a rank, 1 to 9 (a stall comes); \"p\", the digit of a stall,"
-            + " \"=\", and a socket, 0 to 11 (it is plugged in); or \"h\" and hours, 1 to 48 (they go by).")
+    @Says(PLAN)
     static void termsOrdersNeedAllTheirParts() {
         for (String order : new String[] {"s500@23-23*9", "s1@0-0*1", "p9=11", "p0=0", "h48", "h1"}) {
             for (String text : new String[] {order, "h1;" + order, order + ";" + order}) {
@@ -78,8 +83,7 @@ final class EdgeTextTest {
         errorAt("s100@0-0*1;p0=0;h10", 19, true);
     }
 
-    @Says("The buffer is read from left to right; a character is a syntax error if no plan as a text, of any length,"
-            + " begins with the characters before it and this character.")
+    @Says(READING)
     static void termsPlansOfAnyLengthCount() {
         errorAt("h1;".repeat(20), 60, false);
         errorAt("h1;".repeat(19) + "s12", 60, false);
@@ -89,8 +93,7 @@ final class EdgeTextTest {
         errorAt("h1;".repeat(19) + "h49", 59, false);
     }
 
-    @Says("The buffer is read from left to right; a character is a syntax error if no plan as a text, of any length,"
-            + " begins with the characters before it and this character.")
+    @Says(READING)
     static void termsTheFirstErrorIsTheLeftmost() {
         errorAt("xyz", 0, false);
         errorAt("h1;x;y;h0", 3, false);
@@ -201,8 +204,7 @@ final class EdgeTextTest {
 
     // ---- promise 14
 
-    @Says("Does the orders in the buffer as stall(), plug() and pass() do, one after the other, up to the first one"
-            + " whose method would throw an exception, and clears the buffer.")
+    @Says(ORDERS)
     static void promise14DoesWhatTheMethodsDo() {
         isLike("s500@23-0*9", x -> x.stall(500, 23, 0, 9));
         isLike("s1@0-23*1", x -> x.stall(1, 0, 23, 1));
@@ -218,8 +220,7 @@ final class EdgeTextTest {
         Check.same("socket", 0, x.stallOf(0, 4));
     }
 
-    @Says("Does the orders in the buffer as stall(), plug() and pass() do, one after the other, up to the first one"
-            + " whose method would throw an exception, and clears the buffer.")
+    @Says(ORDERS)
     static void promise14StopsWhereAMethodWouldThrow() {
         stopsAt("a stall that is not there", MarketSockets::new, "p0=0;h1", 0);
         stopsAt("a stall that comes later", MarketSockets::new, "h1;p0=0;s1@0-0*1", 1);
@@ -228,13 +229,12 @@ final class EdgeTextTest {
         stopsAt("another's socket", () -> Edge.on(3, 5, 5), "p1=9;h1", 0);
         stopsAt("its own socket", () -> Edge.on(0, 5), "p0=0;h1", 0);
         stopsAt("an 11th stall", Edge::full, "h1;s1@0-0*1;h1", 1);
-        stopsAt("an hour above 9999", () -> atHour(9951), "h48;h1;s1@0-0*1", 1);
-        stopsAt("an hour above 9999 in the first order", () -> atHour(9952), "h48;h1", 0);
+        stopsAt("an hour above 9999", () -> Edge.atHour(9951), "h48;h1;s1@0-0*1", 1);
+        stopsAt("an hour above 9999 in the first order", () -> Edge.atHour(9952), "h48;h1", 0);
         stopsAt("no order", Edge::full, "p9=11;p8=10;h48", 3);
     }
 
-    @Says("Does the orders in the buffer as stall(), plug() and pass() do, one after the other, up to the first one"
-            + " whose method would throw an exception, and clears the buffer.")
+    @Says(ORDERS)
     static void promise14FillsTheMarketUpToTen() {
         MarketSockets x = typed(FIVE_STALLS);
         Check.same("five", 5, x.open());
@@ -291,12 +291,6 @@ final class EdgeTextTest {
     private static MarketSockets typed(String text) {
         MarketSockets x = new MarketSockets();
         Check.type(x, text);
-        return x;
-    }
-
-    private static MarketSockets atHour(int hour) {
-        MarketSockets x = new MarketSockets();
-        Edge.passTo(x, hour);
         return x;
     }
 

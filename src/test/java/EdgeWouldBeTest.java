@@ -4,9 +4,12 @@ import java.util.function.Supplier;
 
 /** Promises 23 to 28: a test of each sentence that names an edge. */
 final class EdgeWouldBeTest {
+    private static final String TRIPS_IN = "Returns in how many hours, 0 to 96, it has tripped, if nothing else is"
+            + " done; NONE if it has not within these.";
+
     private static final String NOTHING_IS_CHANGED = "Ahead of the calls `ifPlugged`, `tripsIn`, `bestSocket`,"
-            + " `leastBound`, `servedShare`, `digest` the interface says: ---- what would be; nothing is changed, and the"
-            + " limit of hours does not matter.";
+            + " `leastBound`, `servedShare`, `digest` the interface says: ---- what would be; nothing is changed, and"
+            + " the limit of hours does not matter.";
 
     @Says(NOTHING_IS_CHANGED)
     static void termsWhatWouldBeChangesNothing() {
@@ -91,6 +94,18 @@ final class EdgeWouldBeTest {
         }, (x, what) -> x.ifPlugged(1, 4, 48, what), 1, 47 + 47 + 2, 240);
     }
 
+    @Says("Tells what hours would bring, if a stall was at a socket.")
+    static void promise23ShedsByRankAsHoursDo() {
+        MarketSockets x = new MarketSockets();
+        Check.open(x, "s150@0-23*5;s140@0-23*4;s130@0-23*6;p0=0");
+        x.set(1, 1);
+        Check.same("the lesser rank stays", 140 * 48, x.ifPlugged(1, 1, 48, 2));
+        Check.same("the greater rank is shed", 0, x.ifPlugged(2, 1, 48, 2));
+        Check.same("dark hours of both others", 2 * 48, x.ifPlugged(1, 1, 48, 1));
+        Check.same("trips", 0, x.ifPlugged(2, 1, 48, 0));
+        Check.same("none is shed by that", 0, x.count(10));
+    }
+
     @Says("Returns the number; NONE if another stall is at this socket.")
     static void promise23IsNoneAtAnothersSocket() {
         MarketSockets x = Edge.on(3, 40, 50);
@@ -138,8 +153,7 @@ final class EdgeWouldBeTest {
         }, MarketSockets::tripsIn, 10, 5, 4, 3);
     }
 
-    @Says({"Returns in how many hours, 0 to 96, it has tripped, if nothing else is done; NONE if it has not within these.",
-        "Tells when a breaker trips."})
+    @Says({TRIPS_IN, "Tells when a breaker trips."})
     static void promise24IsWithin96Hours() {
         Check.same("it has tripped", 0, Edge.tripped().tripsIn(0));
         Check.same("in the first hour", 1, Edge.on(0, 290).tripsIn(0));
@@ -158,7 +172,7 @@ final class EdgeWouldBeTest {
         Check.same("it has tripped, and stays so", 0, x.tripsIn(3));
     }
 
-    @Says("Returns in how many hours, 0 to 96, it has tripped, if nothing else is done; NONE if it has not within these.")
+    @Says(TRIPS_IN)
     static void promise24TakesTheHeatOfNow() {
         MarketSockets x = Edge.on(0, 289);
         x.pass(1);
@@ -177,9 +191,9 @@ final class EdgeWouldBeTest {
 
     // ---- promise 25
 
-    private static final String BEST = "Returns of the sockets at which no other stall is the one with which the next 24"
-            + " hours would bring the fewest dark hours of all stalls, of several the fewest trips, of several the lowest"
-            + " socket; NONE if there is none.";
+    private static final String BEST = "Returns of the sockets at which no other stall is the one with which the"
+            + " next 24 hours would bring the fewest dark hours of all stalls, of several the fewest trips, of"
+            + " several the lowest socket; NONE if there is none.";
 
     @Says({"`stall`: its number", "Finds the best socket for a stall."})
     static void promise25TakesAnyStall() {
@@ -263,6 +277,19 @@ final class EdgeWouldBeTest {
         Check.same("one in the 24th does", 3, x.bestSocket(1));
     }
 
+    @Says(BEST)
+    static void promise25IsASocketEvenIfNoneIsBetter() {
+        MarketSockets x = new MarketSockets();
+        Check.open(x, "s150@0-23*1;s150@0-23*1;s150@0-23*1;s140@1-22*1");
+        Check.open(x, "s500@0-0*1;p0=0;p1=3;p2=6;p3=9");
+        Check.same("dark hours with the best", 22, x.ifPlugged(4, 10, 24, 1));
+        Check.same("the best", 10, x.bestSocket(4));
+        for (int breaker = 0; breaker < 4; breaker++) {
+            x.bound(breaker, 999);
+        }
+        Check.same("all are alike with these bounds", 1, x.bestSocket(4));
+    }
+
     @Says("Throws `IndexOutOfBoundsException` if there is no such stall")
     static void promise25RefusesWithoutTheStall() {
         Edge.refuses("without stalls", Edge.INDEX, MarketSockets::new, x -> x.bestSocket(0));
@@ -273,8 +300,8 @@ final class EdgeWouldBeTest {
 
     // ---- promise 26
 
-    private static final String LEAST = "Returns the least bound, 10 to 999, with which, put on with the heat 0, it would"
-            + " not trip in the next 48 hours; NONE if there is none.";
+    private static final String LEAST = "Returns the least bound, 10 to 999, with which, put on with the heat 0, it"
+            + " would not trip in the next 48 hours; NONE if there is none.";
 
     @Says("`breaker`: 0 to 3")
     static void promise26BreakerIs0To3() {
@@ -337,6 +364,17 @@ final class EdgeWouldBeTest {
         }
     }
 
+    /** A breaker that sheds stalls by rank never carries more than its bound, whatever that is. */
+    @Says(LEAST)
+    static void promise26WithStallsShedByRank() {
+        MarketSockets x = Edge.on(0, 500, 500);
+        x.set(1, 1);
+        Check.same("the least of all bounds", 10, x.leastBound(0));
+        Check.same("none is shed by that", 0, x.count(10));
+        x.set(1, 0);
+        Check.same("not shed", MarketSockets.NONE, x.leastBound(0));
+    }
+
     /** Each day ends 4 hotter than it began; the pass moves the trip with 200 from the 49th to the 48th hour. */
     @Says(LEAST)
     static void promise26Takes48Hours() {
@@ -357,8 +395,9 @@ final class EdgeWouldBeTest {
 
     // ---- promise 27
 
-    @Says({"Returns the hours so far in which stalls drew their loads, as a double, divided by those in which they wanted"
-            + " them; 1.0 without these.", "Returns how much was served."})
+    @Says({"Returns the hours so far in which stalls drew their loads, as a double, divided by those in which they"
+            + " wanted them; 1.0 without these.",
+        "Returns how much was served."})
     static void promise27Is1WithoutHours() {
         MarketSockets x = new MarketSockets();
         Check.sameDouble("without stalls", 1.0, x.servedShare());
@@ -386,11 +425,11 @@ final class EdgeWouldBeTest {
 
     // ---- promise 28
 
-    private static final String VALUES = "The values are: count(0) to count(11); the settings 0 to 2; for each stall its"
-            + " properties 0 to 9, ifPlugged at the socket 10 for 12 hours, with 0 to 2, and bestSocket; for each breaker its"
-            + " properties 0 to 6, and tripsIn; for each socket its properties 0 and 1; leastBound of the breaker 0; the bits"
-            + " of servedShare (as Double.doubleToLongBits); for each slot 1 if it has a snapshot, otherwise 0; the length of"
-            + " the buffer and each of its character codes.";
+    private static final String VALUES = "The values are: count(0) to count(11); the settings 0 to 2; for each stall"
+            + " its properties 0 to 9, ifPlugged at the socket 10 for 12 hours, with 0 to 2, and bestSocket; for each"
+            + " breaker its properties 0 to 6, and tripsIn; for each socket its properties 0 and 1; leastBound of the"
+            + " breaker 0; the bits of servedShare (as Double.doubleToLongBits); for each slot 1 if it has a"
+            + " snapshot, otherwise 0; the length of the buffer and each of its character codes.";
 
     @Says({VALUES, "The hash starts at 3089.", "Computes a hash of the whole state.", "Returns the hash."})
     static void promise28OfAnEmptyMarket() {
@@ -406,25 +445,27 @@ final class EdgeWouldBeTest {
         Check.same("digest", hashOf(values), new MarketSockets().digest());
     }
 
-    @Says({VALUES, "For each value v of the following list, in order, the hash becomes 31 * hash + v, in long arithmetic"
-            + " with overflow."})
+    @Says({VALUES,
+        "For each value v of the following list, in order, the hash becomes 31 * hash + v, in long arithmetic with"
+            + " overflow."})
     static void promise28OfStallsSlotsAndAFullBuffer() {
         MarketSockets x = new MarketSockets();
-        Check.open(x, "s50@0-23*2;s30@1-1*9;p0=10;h3");
+        Check.open(x, "s50@0-23*2;s30@1-1*9;s20@3-2*5;p0=0;p2=10;h3");
         x.keep(1);
         Check.type(x, "!~".repeat(30));
         List<Long> values = new ArrayList<>();
-        add(values, 3, 2, 1, 1, 4, 150, 150, 0, 1, 45, 0, 1, 2, 0, 3);
-        add(values, 50, 0, 23, 2, 10, 0, 150, 0, 0, 45, 0, 0, 600, 0);
-        add(values, 30, 1, 1, 9, -1, 0, 0, 1, 1, 0, -1, -1, -1, 0);
-        for (int breaker = 0; breaker < 3; breaker++) {
-            add(values, 200, 1, 0, 0, 0, 0, 0, -1);
-        }
+        add(values, 3, 3, 2, 2, 4, 210, 210, 0, 1, 63, 0, 1, 2, 0, 3);
+        add(values, 50, 0, 23, 2, 0, 0, 150, 0, 0, 45, -1, -1, -1, 0);
+        add(values, 30, 1, 1, 9, -1, 0, 0, 1, 1, 0, -1, -1, -1, 1);
+        add(values, 20, 3, 2, 5, 10, 0, 60, 0, 0, 18, 0, 0, 240, 1);
         add(values, 200, 1, 0, 50, 50, 0, 150, -1);
+        add(values, 200, 1, 0, 0, 0, 0, 0, -1);
+        add(values, 200, 1, 0, 0, 0, 0, 0, -1);
+        add(values, 200, 1, 0, 20, 20, 0, 60, -1);
         for (int socket = 0; socket < 12; socket++) {
-            add(values, socket / 3, socket == 10 ? 0 : -1);
+            add(values, socket / 3, socket == 0 ? 0 : socket == 10 ? 2 : -1);
         }
-        add(values, 10, Double.doubleToLongBits(0.75), 0, 1, 60);
+        add(values, 50, Double.doubleToLongBits(6.0 / 7.0), 0, 1, 60);
         for (int k = 0; k < 30; k++) {
             add(values, 33, 126);
         }
@@ -432,11 +473,28 @@ final class EdgeWouldBeTest {
     }
 
     @Says(VALUES)
+    static void promise28WithAShareOf0() {
+        MarketSockets x = new MarketSockets();
+        Check.open(x, "s500@0-0*9;h1");
+        List<Long> values = new ArrayList<>();
+        add(values, 1, 1, 0, 0, 4, 0, 0, 0, 1, 0, 0, 1, 2, 0, 3);
+        add(values, 500, 0, 0, 9, -1, 0, 0, 1, 1, 0, 0, 0, 0, 0);
+        for (int breaker = 0; breaker < 4; breaker++) {
+            add(values, 200, 1, 0, 0, 0, 0, 0, -1);
+        }
+        for (int socket = 0; socket < 12; socket++) {
+            add(values, socket / 3, -1);
+        }
+        add(values, 10, 0, 0, 0, 0);
+        Check.same("digest", hashOf(values), x.digest());
+    }
+
+    @Says(VALUES)
     static void promise28HasEachPartOfTheState() {
         long[] seen = new long[6];
         int n = 0;
-        List<Supplier<MarketSockets>> markets = List.of(MarketSockets::new, () -> kept(0), () -> kept(1), () -> typed("h"),
-                () -> typed("hh"), () -> typed("p"));
+        List<Supplier<MarketSockets>> markets = List.of(MarketSockets::new, () -> kept(0), () -> kept(1),
+                () -> typed("h"), () -> typed("hh"), () -> typed("p"));
         for (Supplier<MarketSockets> made : markets) {
             seen[n++] = made.get().digest();
         }

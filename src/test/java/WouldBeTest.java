@@ -87,7 +87,7 @@ final class WouldBeTest {
     /** Each day ends 2 hotter than it began, so that the reserve trips in the 98th hour. */
     static void promise24TakesThe96thHourAndNotThe97th() {
         MarketSockets x = new MarketSockets();
-        fillReserve(x, 1);
+        Edge.fillReserve(x, 1);
         x.set(0, 1);
         Check.same("the 98th", -1, x.tripsIn(3));
         x.pass(1);
@@ -188,25 +188,12 @@ final class WouldBeTest {
     /** Each day ends 4 hotter than it began, so that from midnight on the reserve trips in the 47th hour. */
     static void promise26LooksAt48Hours() {
         MarketSockets x = new MarketSockets();
-        fillReserve(x, 10);
+        Edge.fillReserve(x, 10);
         Check.same("a trip in the 47th hour", 201, x.leastBound(3));
         x.pass(22);
         Check.same("a trip in the 49th hour", 200, x.leastBound(3));
         x.pass(1);
         Check.same("a trip in the 48th hour", 201, x.leastBound(3));
-    }
-
-    /** The reserve carries 200, and more in 13 hours of the day, two or three of them in a row. */
-    private static void fillReserve(MarketSockets x, int more) {
-        int[][] hours = {{0, 23}, {0, 1}, {4, 5}, {8, 9}, {12, 13}, {16, 17}, {20, 22}};
-        int[] sockets = {9, 10, 11, 0, 1, 2, 3};
-        for (int stall = 0; stall < 7; stall++) {
-            x.stall(stall == 0 ? 200 : more, hours[stall][0], hours[stall][1], 1);
-            x.plug(stall, sockets[stall]);
-            if (sockets[stall] < 9) {
-                x.over(sockets[stall]);
-            }
-        }
     }
 
     static void promise27TellsTheShare() {
