@@ -32,14 +32,14 @@ final class EdgeStallTest {
     }
 
     @Says("Adds a stall.")
-    static void promise2BeginsAnewAfterUndo() {
+    static void promise2BeginsAnew() {
         MarketSockets x = new MarketSockets();
+        x.keep(0);
         Check.open(x, "s9@0-23*9;h2;p0=4;h3");
         x.shed(0);
         Check.same("meter of the one before", 27, x.stallOf(0, 6));
-        x.undo();
-        x.undo();
-        x.stall(77, 5, 4, 8);
+        x.goBack(0);
+        Check.same("number", 0, x.stall(77, 5, 4, 8));
         int[] due = {77, 5, 4, 8, -1, 0, 0, 0, 2, 0};
         for (int what = 0; what < 10; what++) {
             Check.same("its property " + what, due[what], x.stallOf(0, what));
