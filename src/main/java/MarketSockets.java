@@ -661,7 +661,9 @@ public final class MarketSockets {
             for (int breaker = 0; breaker < BREAKERS; breaker++) {
                 breakers[breaker].copyFrom(other.breakers[breaker]);
             }
-            System.arraycopy(other.isOver, 0, isOver, 0, SOCKETS);
+            for (int socket = 0; socket < SOCKETS; socket++) {
+                isOver[socket] = other.isOver[socket];
+            }
             System.arraycopy(other.settings, 0, settings, 0, SETTINGS);
             hour = other.hour;
             servedHours = other.servedHours;

@@ -13,7 +13,8 @@ public final class AllTests {
     static final Class<?>[] CLASSES = {LookTest.class, StallTest.class, BreakerTest.class, TextTest.class,
         SnapshotTest.class, WouldBeTest.class, ModelTest.class, EdgeHourTest.class, EdgeStallTest.class,
         EdgeBreakerTest.class, EdgeTextTest.class, EdgeSnapshotTest.class, EdgeLookTest.class,
-        EdgeWouldBeTest.class, DocumentTest.class, FaceTest.class, LanguageTest.class};
+        EdgeWouldBeTest.class, DocumentTest.class, FaceTest.class, LanguageTest.class,
+        ReadmeTest.class};
     static final Pattern PROMISE = Pattern.compile("promise(\\d+).*");
 
     private static int passed = 0;

@@ -1,10 +1,15 @@
+import java.io.IOException;
 import java.lang.reflect.Constructor;
 import java.lang.reflect.Field;
 import java.lang.reflect.Method;
 import java.lang.reflect.Modifier;
+import java.nio.file.Files;
+import java.nio.file.Path;
 import java.util.Arrays;
 import java.util.Set;
 import java.util.TreeSet;
+import java.util.regex.Matcher;
+import java.util.regex.Pattern;
 import java.util.stream.Collectors;
 
 /** The public face is the document's and no more. */
@@ -34,6 +39,25 @@ final class FaceTest {
                     Arrays.stream(method.getParameterTypes()).allMatch(type -> type == int.class));
         }
         Check.isTrue("methods " + got, got.equals(due));
+    }
+
+    /** The names of the arguments and the order of the exceptions, too. */
+    static void faceIsWordedAsInTheDocument() throws IOException {
+        Matcher block = Pattern.compile("(?s)## The public face\\s+```java(.*?)```")
+                .matcher(Files.readString(Path.of("..", "shared", "DOC.md")));
+        Check.isTrue("the document has a face", block.find());
+        String program = Files.readString(LanguageTest.SOURCE).replaceAll("\\s+", " ");
+        int members = 0;
+        for (String line : block.group(1).split("\n")) {
+            String member = line.strip();
+            if (member.startsWith("public") && member.endsWith(";")) {
+                members++;
+                String due = member.endsWith(");") || member.contains(" throws ")
+                        ? member.replace(";", " {") : member;
+                Check.isTrue("the program has " + due, program.contains(" " + due));
+            }
+        }
+        Check.same("members of the face", 29, members);
     }
 
     static void hiddenMethodsHaveNamesOfTheirOwn() {
